@@ -58,9 +58,12 @@ public final class ModelTest {
     }
 
     private void tellText() {
-        int drawn = random.nextInt(4);
-        String text = drawn == 0 ? texts.changed(texts.tower()) : drawn == 1 && random.nextInt(3) == 0
-            ? texts.deep() : texts.tower();
+        String text = switch (random.nextInt(12)) {
+            case 0, 1, 2 -> texts.changed(texts.tower());
+            case 3 -> texts.deep();
+            case 4 -> texts.crowded();
+            default -> texts.tower();
+        };
         calls.add("text: " + text);
         byte[] bytes = text.getBytes(StandardCharsets.ISO_8859_1);
         for (int from = 0; from < bytes.length; from += 20) {

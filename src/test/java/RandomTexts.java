@@ -131,6 +131,18 @@ final class RandomTexts {
         return changed.toString();
     }
 
+    /** As many of everything as may be told, or one more, and lines told twice. */
+    String crowded() {
+        StringBuilder text = new StringBuilder();
+        String word = pick(new String[] {"gargoyle 1 2 3", "person 1 2 3", "orphan 1 2 3", "rain 1", "certain 1",
+            "wears 1", "sits 1"});
+        text.append((word + ";").repeat(below(3) == 0 ? 1 : 8));
+        text.append(below(2) == 0 ? word + ";" : "");
+        text.append("rain").append(" 7".repeat(7 + below(3))).append(';');
+        text.append(below(2) == 0 ? word + ";" : "person 1 1 1 of " + below(12) + ";");
+        return text.toString();
+    }
+
     /** Many levels, many 'not' side by side, and what may stand at their end. */
     String deep() {
         StringBuilder text = new StringBuilder(below(2) == 0 ? "wears " : "sits ");
