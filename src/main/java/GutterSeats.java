@@ -162,7 +162,7 @@ public final class GutterSeats {
             case 4:
                 return state.seat[person];
             case 5:
-                return plan.isOrphan[person] ? 1 : 0;
+                return plan.orphanBits >> person & 1;
             default:
                 throw new NoSuchElementException("no such thing of a person");
         }
@@ -875,7 +875,7 @@ public final class GutterSeats {
     /** What a text tells. */
     private static final class Plan {
         final State start = new State();
-        final boolean[] isOrphan = new boolean[MOST];
+        int orphanBits;
         final int[] rain = new int[MOST];
         int rains;
         int certain = USUAL_CERTAIN;
@@ -887,6 +887,7 @@ public final class GutterSeats {
             start.gargoyles = 0;
             start.people = 0;
             start.year = 0;
+            orphanBits = 0;
             rains = 0;
             certain = USUAL_CERTAIN;
             isCertainTold = false;
@@ -896,7 +897,7 @@ public final class GutterSeats {
 
         void copyFrom(Plan other) {
             start.copyFrom(other.start);
-            System.arraycopy(other.isOrphan, 0, isOrphan, 0, isOrphan.length);
+            orphanBits = other.orphanBits;
             System.arraycopy(other.rain, 0, rain, 0, rain.length);
             rains = other.rains;
             certain = other.certain;
@@ -1141,7 +1142,7 @@ public final class GutterSeats {
                 refuse(TOO_MUCH);
                 return;
             }
-            draft.isOrphan[person] = word == Word.ORPHAN;
+            draft.orphanBits |= word == Word.ORPHAN ? 1 << person : 0;
             advance();
             int jaw = takeNumber(MOST_FACE);
             int brow = takeNumber(MOST_FACE);
@@ -1466,7 +1467,8 @@ public final class GutterSeats {
                 int age = Math.min(state.age[person] + 1, MOST_AGE);
                 int family = state.family[person];
                 state.age[person] = age;
-                if (age >= plan.certain && !plan.isOrphan[person] && family != NONE) {
+                boolean isOrphan = (plan.orphanBits >> person & 1) == 1;
+                if (age >= plan.certain && !isOrphan && family != NONE) {
                     state.growLike(person, family);
                 }
             }

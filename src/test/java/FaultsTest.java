@@ -18,7 +18,6 @@ public final class FaultsTest {
         Check.end();
     }
 
-    /** The fault and its place: 1000 by the fault, and the place. */
     private static void fault(String text, int code, int place) {
         GutterSeats seats = new GutterSeats();
         Check.same("fault of " + text, Check.tell(seats, text), code);
@@ -139,6 +138,11 @@ public final class FaultsTest {
         fault("sits rain;", 3, 5);
         fault("sits beside;", 3, 5);
         fault("wears x;", 3, 6);
+        fault("wears zaz;", 3, 6);
+        for (String word : new String[] {"gargoyle", "person", "orphan", "of", "certain", "wears", "sits", "or", "and"}) {
+            fault("wears " + word + ";", 3, 6);
+            fault("sits 1*" + word + ";", 3, 7);
+        }
         fault("wears 1+gargoyle;", 3, 8);
         fault("wears 1+not 2;", 3, 8);
         fault("wears 1<not 2;", 3, 8);

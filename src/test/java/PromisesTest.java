@@ -152,6 +152,7 @@ public final class PromisesTest {
         String whole = "gargoyle 1 1 1;";
         Check.same("a row over the end", Check.told(loaf + whole + loaf + loaf).count(9), 3);
         Check.same("a row within", Check.told(whole + loaf + loaf + whole + loaf).count(9), 2);
+        Check.same("the first one", Check.told(loaf + whole).count(9), 1);
         Check.same("all of them", Check.told(loaf.repeat(5)).count(9), 5);
         Check.same("one alone", Check.told(loaf).count(9), 1);
         Check.same("none", Check.told(whole.repeat(3)).count(9), 0);
@@ -559,6 +560,15 @@ public final class PromisesTest {
         Check.fails("no such gargoyle", Check.NO_SUCH, () -> x.lasts(0, 2));
         GutterSeats loaf = Check.told("gargoyle 1 1 0;person 1 1 1;");
         Check.same("a loaf now", loaf.lasts(0, 0), 0);
+        // Were somebody at gargoyle 0 in the first year, gargoyle 1 would last for one more.
+        String text = "gargoyle 1 1 51;gargoyle 9 9 20;person 1 1 1;person 9 9 1;wears (beside<60)*20;sits 0;";
+        GutterSeats other = Check.told(text);
+        other.lift(1, 1);
+        Check.same("whoever sits there is called down", other.lasts(0, 1), 2);
+        GutterSeats elsewhere = Check.told(text);
+        elsewhere.lift(0, 0);
+        Check.same("one is called down elsewhere", elsewhere.lasts(0, 1), 2);
+        Check.same("somebody else stays there", elsewhere.lasts(1, 1), 3);
     }
 
     private static void best() {
@@ -679,6 +689,8 @@ public final class PromisesTest {
         second.see(0, 0, 8);
         Check.same("without any", second.look(0), NONE);
         Check.same("without any", second.look(1), 0);
+        GutterSeats sixth = Check.told("gargoyle 1 1 99;orphan 1 1 5;sits age=6;");
+        Check.same("of age 0 one sits behind just 6 years", sixth.look(1), 2);
         GutterSeats still = Check.told("gargoyle 1 1 99;orphan 1 1 5;");
         Check.same("always in one place", still.look(1), 1);
         Check.same("of one", still.look(0), 0);
@@ -721,11 +733,14 @@ public final class PromisesTest {
         GutterSeats x = Check.told("gargoyle 1 1 38;gargoyle 9 9 20;");
         Check.same("one couple rests", x.game(0, 1, 0), 1);
         Check.same("both cut", x.game(0, 1, 1), 11);
-        // 70 is 5 behind 6 years, as is what is cut anew: either choice of the first one rests.
-        GutterSeats like = Check.told("gargoyle 1 1 70;gargoyle 9 9 20;");
+        // 71 is 5 behind 6 years, as is what is cut anew: either choice of the first one rests.
+        GutterSeats like = Check.told("gargoyle 1 1 71;gargoyle 9 9 20;");
         Check.same("two couples rest", like.game(0, 1, 0), 2);
         Check.same("the first one not cut, the other one cut", like.game(0, 1, 1), 1);
         Check.same("seen from the other one", like.game(1, 0, 1), 10);
+        GutterSeats less = Check.told("gargoyle 1 1 67;gargoyle 9 9 20;");
+        Check.same("67 is 4 behind 6 years", less.game(0, 1, 0), 1);
+        Check.same("so that one is cut", less.game(0, 1, 1), 11);
         GutterSeats well = Check.told("gargoyle 1 1 99;gargoyle 9 9 99;");
         Check.same("nobody cuts", well.game(0, 1, 1), 0);
         // A loaf that is cut keeps the face of a loaf, so that its person goes on sitting there.
@@ -801,6 +816,12 @@ public final class PromisesTest {
             Check.same("sat down by a seed", sitters.ages(seed, 30, 1), satDown);
         }
         Check.same("nothing changes", sitters.count(2), 0);
+        GutterSeats noStones = Check.told("person 1 1 5;");
+        GutterSeats nobody = new GutterSeats();
+        for (int seed = 0; seed < 30; seed++) {
+            Check.same("no stone", noStones.ages(seed, 60, 2), 0);
+            Check.same("nobody sits down", nobody.ages(seed, 60, 1), 0);
+        }
     }
 
     private static void image() {
