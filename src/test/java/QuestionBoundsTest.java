@@ -28,12 +28,14 @@ public final class QuestionBoundsTest {
         oldFirst();
         oldWithout();
         lookNext();
+        lookOfEight();
         lookBehindSixYears();
         wet();
         game();
         gameGains();
         ages();
         agesByDraws();
+        agesOfOne();
         seedThatWraps();
         image();
         withoutGargoyles();
@@ -147,6 +149,8 @@ public final class QuestionBoundsTest {
     private static void twins() {
         Check.same("TWINS without PEOPLE", Check.told(STONES).count(8), 0);
         Check.same("of one alone", Check.told("person 1 1 1;").count(8), 0);
+        Check.same("of one alone, of 0 and 0", Check.told("person 0 0 1;").count(8), 0);
+        Check.same("GARGOYLES are no PEOPLE", Check.told("gargoyle 1 1 9;".repeat(8) + "person 1 1 1;").count(8), 0);
         Check.same("of two", Check.told("person 1 2 1;orphan 1 2 9;").count(8), 1);
         Check.same("UNLIKE by 1", Check.told("person 1 2 1;orphan 1 3 9;").count(8), 0);
         Check.same("UNLIKE by 1 and 1", Check.told("person 1 2 1;orphan 2 1 9;").count(8), 0);
@@ -209,6 +213,9 @@ public final class QuestionBoundsTest {
         row("nobody may be left out to make it less", "gargoyle 1 1 1;gargoyle 9 9 1;person 1 1 1;person 1 1 1;", 16, 0, 1);
         row("of like ones the first row", "gargoyle 3 3 1;gargoyle 3 3 1;person 1 1 1;person 5 5 1;", 8, 0, 1);
         row("nowhere behind all", "gargoyle 3 3 1;person 2 3 1;person 3 2 1;", 1, 0, NONE);
+        row("a place is nobody else's, however like", "gargoyle 3 3 1;person 3 3 1;person 3 3 1;", 0, 0, NONE);
+        row("nor is the second place", "gargoyle 9 9 1;gargoyle 3 3 1;person 3 3 1;person 3 3 1;person 9 9 1;", 0, 1, NONE, 0);
+        row("there is no place behind the last", "gargoyle 5 5 1;person 0 0 1;person 5 5 1;", 0, NONE, 0);
         row("nowhere behind all, of three", "gargoyle 3 3 1;gargoyle 3 3 1;" + "person 2 3 1;".repeat(3), 2, 0, 1, NONE);
         row("the first row, not the nearest for each", "gargoyle 3 3 1;gargoyle 3 4 1;person 3 4 1;person 3 5 1;", 2, 0, 1);
         row("least for all together", "gargoyle 3 3 1;gargoyle 3 5 1;person 3 4 1;person 3 1 1;", 3, 1, 0);
@@ -262,6 +269,12 @@ public final class QuestionBoundsTest {
         stays.lift(0, 0);
         Check.same("who sits there already stays", stays.lasts(0, 0), NONE);
         Check.same("whoever else sits there is CALLED DOWN first", stays.lasts(1, 0), NONE);
+        // Person 0, who is like it, is called down for person 1, who leaves behind a year: one year of rain.
+        GutterSeats down = Check.told("gargoyle 1 1 3;orphan 1 1 1;orphan 9 9 1;");
+        down.lift(0, 0);
+        Check.same("as it is", down.loaf(0), NONE);
+        Check.same("whoever else sits there has left the place", down.lasts(1, 0), 2);
+        Check.same("now one sits there still", down.gargoyle(0, 3), 0);
         // Both at once: person 0 is called down from 1, person 1 from 0; each keeps the rain off a year.
         GutterSeats both = Check.told("gargoyle 1 1 6;gargoyle 9 9 6;orphan 5 5 1;orphan 5 6 1;sits 0;");
         both.lift(0, 1);
@@ -285,6 +298,10 @@ public final class QuestionBoundsTest {
         GutterSeats none = Check.told("person 1 1 1;");
         Check.same("no GARGOYLES behind 1", none.best(0, 1, 0), NONE);
         Check.same("no GARGOYLES behind 60", none.best(0, 60, 1), NONE);
+        GutterSeats down = Check.told("gargoyle 1 1 3;orphan 1 1 1;orphan 9 9 1;");
+        down.lift(0, 0);
+        Check.same("whoever else sits there has left the place", down.best(1, 2, 1), 0);
+        Check.same("who sits there already stays", down.best(0, 60, 1), 3);
         GutterSeats away = Check.told("gargoyle 1 1 50;gargoyle 9 9 40;orphan 5 5 1;orphan 5 5 1;wears stone/10;sits 0;");
         away.lift(1, 0);
         Check.same("whoever else sits there is CALLED DOWN: where both are dry", away.best(0, 1, 0), 1);
@@ -445,7 +462,29 @@ public final class QuestionBoundsTest {
         Check.same("one place by it", alone.look(1), 1);
     }
 
+    private static void lookOfEight() {
+        GutterSeats x = Check.told("gargoyle 1 1 99;" + "orphan 9 9 5;".repeat(7) + "orphan 1 1 5;rain 0;sits age<50 and unlike<3;");
+        Check.same("the last of 8", x.look(0), 7);
+        Check.same("two places", x.look(1), 2);
+        GutterSeats all = Check.told("gargoyle 1 1 99;".repeat(8) + "orphan 1 1 5;".repeat(8) + "rain 0;sits age<50;");
+        // Each of those ahead may be nowhere, so that the one behind sits one place further on.
+        Check.same("in one's own place, in the one before, nowhere", all.look(1), 3);
+        Check.same("the first of these", all.look(0), 1);
+        // One sits in the first year, if one is 99 by then, and stays where the stone has been kept since.
+        String text = "gargoyle 1 1 50;orphan 1 1 98;sits year=0 and age=99 or 0<year and stone=47;";
+        Check.same("AGE of 99, which isn't one's own", Check.told(text).look(1), 2);
+        Check.same("98, were one's own 99", Check.told(text.replace("98", "99")).look(1), 2);
+        Check.same("neither is 99 in the first year", Check.told(text.replace("age=99", "age=100")).look(1), 1);
+    }
+
     private static void lookBehindSixYears() {
+        // What is seen behind 20 years holds for any age; who sits behind 6 (not 26) years is asked.
+        GutterSeats seen = Check.told("gargoyle 1 1 99;orphan 1 1 5;rain 0;sits year=5 and age<50;");
+        seen.see(0, 20, 1);
+        Check.same("behind 6 YEARS from now on", seen.look(1), 2);
+        GutterSeats late = Check.told("gargoyle 1 1 99;orphan 1 1 5;rain 0;sits 20<year and age<90;");
+        late.see(0, 20, 1);
+        Check.same("nobody sits behind 6 YEARS", late.look(1), 1);
         GutterSeats x = Check.told("gargoyle 1 1 99;orphan 1 1 5;rain 0;sits year=5;");
         Check.same("behind 6 YEARS one sits, whatever one's AGE", x.look(1), 1);
         GutterSeats sixth = Check.told("gargoyle 1 1 99;orphan 1 1 50;rain 0;sits age=6;");
@@ -471,6 +510,15 @@ public final class QuestionBoundsTest {
         GutterSeats sits = Check.told("gargoyle 1 1 18;orphan 1 1 1;rain 0;sits year=0;");
         Check.same("one sits behind the first YEAR, for the second", sits.wet(0, 2, 10), 0);
         Check.same("and not for the third", sits.wet(0, 3, 10), 1000);
+        GutterSeats rule = Check.told("gargoyle 1 1 4;gargoyle 1 1 5;gargoyle 1 1 6;wears 1;");
+        Check.same("so many YEARS, no less", rule.wet(1, 5, 0), 100000);
+        Check.same("so many YEARS, no more", rule.wet(2, 5, 10), 0);
+        Check.same("four of four", rule.wet(0, 4, 3), 10000);
+        Check.same("four aren't five", rule.wet(1, 4, 3), 0);
+        GutterSeats both = Check.told("gargoyle 1 1 10;gargoyle 1 1 2;rain 7;wears rain+1;");
+        Check.same("RAIN is 9 in a wet YEAR", both.wet(0, 1, 3), 3);
+        Check.same("RAIN is 0 in a dry one", both.wet(1, 2, 0), 100);
+        Check.same("so that one isn't enough", both.wet(1, 1, 0), 0);
         GutterSeats later = Check.told("gargoyle 1 1 9;rain 9;");
         Check.same("from now on", aged(later, 1).wet(0, 1, 0), 10);
     }
@@ -506,6 +554,14 @@ public final class QuestionBoundsTest {
             + "sits unlike=0 and stone<99;");
         Check.same("5 and 2 against 9 less 3: neither cuts", left.game(0, 1, 1), 0);
         Check.same("that alone", left.game(0, 1, 0), 1);
+        String even = "orphan 1 1 1 of 0;wears 0;sits unlike=0 and stone<99;";
+        Check.same("4 and 2 against 9 less 3: either", Check.told("gargoyle 1 1 49;gargoyle 5 5 99;" + even).game(0, 1, 0), 2);
+        Check.same("3 and 2: it is cut", Check.told("gargoyle 1 1 39;gargoyle 5 5 99;" + even).game(0, 1, 1), 10);
+        Check.same("that alone", Check.told("gargoyle 1 1 39;gargoyle 5 5 99;" + even).game(0, 1, 0), 1);
+        Check.same("5 and 2: it isn't", Check.told("gargoyle 1 1 50;gargoyle 5 5 99;" + even).game(0, 1, 0), 1);
+        GutterSeats three = Check.told("gargoyle 1 1 9;gargoyle 1 1 99;gargoyle 1 1 99;gargoyle 5 5 99;"
+            + "orphan 1 1 1 of 0;orphan 1 1 1 of 0;orphan 1 1 1 of 0;wears 0;sits unlike=0 and (stone<99 or year=3 or 3<year);");
+        Check.same("three sit, wherever, cut or not: 6 against 12", three.game(0, 3, 1), 10);
         GutterSeats nobody = Check.told("gargoyle 1 1 59;gargoyle 5 5 59;orphan 1 1 1;orphan 5 5 1;wears 0;"
             + "sits unlike=0 and stone<99;");
         Check.same("without a FAMILY 5 against 6: both cut", nobody.game(0, 1, 1), 11);
@@ -563,6 +619,31 @@ public final class QuestionBoundsTest {
         }
     }
 
+    private static void agesOfOne() {
+        GutterSeats stone = Check.told("gargoyle 1 1 90;rain 1;");
+        GutterSeats person = Check.told("gargoyle 1 1 99;orphan 1 1 1;rain 0;");
+        for (int first = 0; first < 60; first++) {
+            seed = first;
+            int due = 90;
+            for (int year = 0; year < 40; year++) {
+                int choice = draw(6);
+                due = choice == 0 && draw(1) == 0 ? 99 : due;
+                due = Math.max(0, due - (choice == 2 ? draw(10) : 1));
+            }
+            Check.same("one GARGOYLE alone is CUT ANEW", stone.ages(first, 40, 2), due);
+            seed = first;
+            int satDown = 1;
+            for (int year = 0; year < 40; year++) {
+                int choice = draw(6);
+                satDown += choice == 1 && year > 0 ? 1 : 0;
+                if (choice < 3) {
+                    draw(1);
+                }
+            }
+            Check.same("one alone is CALLED DOWN and sits down again", person.ages(first, 40, 1), satDown);
+        }
+    }
+
     private static void seedThatWraps() {
         GutterSeats x = Check.told("gargoyle 1 1 90;gargoyle 1 1 80;rain 1 2;");
         for (int first : new int[] {0, 1, -1, Integer.MAX_VALUE, Integer.MIN_VALUE, 0x7fff0000, 0x8000ffff}) {
@@ -587,6 +668,35 @@ public final class QuestionBoundsTest {
         Check.is("an undone act comes again", x.restore());
         Check.same("the YEAR", x.count(2), 3);
         Check.same("ACTS that are kept", x.count(10), 1);
+        // Acts that are kept come again, each as it was, whatever acts came in their place.
+        GutterSeats acts = Check.told(STONES + PEOPLE);
+        acts.cut(0, 1, 2);
+        acts.cut(0, 3, 4);
+        acts.cut(0, 5, 6);
+        acts.image();
+        for (int i = 0; i < 3; i++) {
+            acts.undo();
+        }
+        for (int i = 0; i < 4; i++) {
+            acts.cut(0, 9, 9);
+        }
+        acts.restore();
+        int[] jaws = {3, 1, 1};
+        int[] brows = {4, 2, 1};
+        for (int i = 0; i < 3; i++) {
+            Check.same("how many are left", acts.undo(), 2 - i);
+            Check.same("JAW ahead of it", acts.gargoyle(0, 0), jaws[i]);
+            Check.same("BROW ahead of it", acts.gargoyle(0, 1), brows[i]);
+        }
+        GutterSeats others = Check.told("orphan 1 1 9;orphan 5 5 9;gargoyle 9 9 9;rain 0;person 0 0 50 of 0;");
+        others.see(1, 0, 5);
+        others.see(2, 3, 3);
+        others.image();
+        others.forget();
+        others.see(0, 9, 9);
+        others.see(0, 9, 9);
+        others.restore();
+        Check.same("whose, behind how many YEARS, which JAW", others.old(2), 1);
         // What is seen comes again, with all its numbers.
         x.see(0, 0, 1);
         x.image();

@@ -169,8 +169,11 @@ public final class RefusalTest {
         for (int what = 0; what < face.length; what++) {
             Check.same("tower: the new one's person " + what, x.person(0, what), face[what]);
         }
+        Check.tell(x, "orphan 1 2 3;orphan 1 2 3;#");
+        Check.tell(x, "person 1 2 3;person 1 2 3;");
+        Check.same("tower: an orphan's place is no orphan's any more", x.person(0, 5), 0);
+        Check.same("tower: nor is one of a text with a FAULT", x.person(1, 5), 0);
         GutterSeats rules = Picture.lived();
-        Check.put(rules, "gargoyle 5 5 9;person 5 3 1;");
         rules.tower(0);
         Check.tell(rules, "gargoyle 5 5 9;person 5 3 1;");
         rules.years(1);

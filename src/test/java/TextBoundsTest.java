@@ -15,6 +15,7 @@ public final class TextBoundsTest {
         families();
         bytes();
         words();
+        wordsWithAnotherLetter();
         numbers();
         missingTokens();
         tokensTooMany();
@@ -182,6 +183,10 @@ public final class TextBoundsTest {
             outside("the longest row: one letter ahead", "a" + word + " 1 1 1;", 1, 0);
             outside("the longest row: one letter less", word.substring(0, word.length() - 1) + " 1 1 1;", 1, 0);
             outside("a capital letter", word.toUpperCase() + " 1 1 1;", 1, 0);
+            for (int i = 0; i < word.length(); i++) {
+                String other = word.substring(0, i) + "z" + word.substring(i + 1);
+                outside("another letter", other + " 1 1 1;", 1, 0);
+            }
         }
         for (String word : new String[] {"of", "or", "and", "not", "stone", "beside", "year", "unlike", "age",
             "family", "a", "z"}) {
@@ -191,6 +196,19 @@ public final class TextBoundsTest {
         outside("'of' with a letter less", GARGOYLE + "person 1 1 1 o 0;", 1, 28);
         outside("'or' and a word in one row", "wears 1 orstone;", 1, 8);
         inside("'or' and a number", "wears 1or1and1;");
+    }
+
+    private static void wordsWithAnotherLetter() {
+        for (String word : new String[] {"or", "and", "of", "not", "rain", "stone", "beside", "year", "unlike", "age",
+            "family"}) {
+            for (int i = 0; i < word.length(); i++) {
+                String other = word.substring(0, i) + "z" + word.substring(i + 1);
+                outside("no VALUE with another letter", "wears " + other + ";", 3, 6);
+                outside("no VALUE with another letter", "sits " + other + ";", 3, 5);
+                outside("no word between PARTS with another letter", "wears 1 " + other + " 1;", 1, 8);
+                outside("no 'of' with another letter", GARGOYLE + "person 1 1 1 " + other + " 0;", 1, 28);
+            }
+        }
     }
 
     private static void numbers() {
@@ -332,6 +350,7 @@ public final class TextBoundsTest {
         }
         for (String ahead : new String[] {"1+", "1-", "1*", "1/", "1<", "1="}) {
             outsideAtEnd("'not' where a PART must stand", "wears " + ahead, "not", 3);
+            outsideAtEnd("'not' where a PART must stand", "sits " + ahead, "not", 3);
         }
     }
 
@@ -381,6 +400,9 @@ public final class TextBoundsTest {
         Check.same("all of the EXPR", x.then(0, 1, 0), 0);
         outside("700 bytes, which end too soon", text + "   ", 1, 700);
         outside("700 bytes, the last one no TOKEN", text + "; #", 1, 699);
+        outside("700 bytes, at their end a part of a word", GARGOYLE + " ".repeat(682) + "gar", 1, 697);
+        outside("700 bytes, at their end a word", GARGOYLE + " ".repeat(677) + "gargoyle", 1, 700);
+        outside("700 bytes, at their end a NUMBER", " ".repeat(688) + "certain 1234", 2, 696);
         GutterSeats part = Picture.aged();
         Check.put(part, "certain 12;#");
         Check.same("what is behind the first n isn't looked at", part.tower(11), 0);
@@ -391,5 +413,8 @@ public final class TextBoundsTest {
         Check.put(part, "certain 12;");
         Check.same("a word is cut off by n", part.tower(6), 1);
         Check.same("at its first byte", part.fault(), 0);
+        Check.put(part, "certain 123;");
+        Check.same("a NUMBER of 2 digits by n", part.tower(10), 1);
+        Check.same("at the text's length", part.fault(), 10);
     }
 }

@@ -18,6 +18,7 @@ public final class YearBoundsTest {
         whereSomebodySits();
         ring();
         atItsTurn();
+        familyOfSits();
         ages();
         certain();
         orphansAndFamilies();
@@ -33,6 +34,7 @@ public final class YearBoundsTest {
         whatHolds();
         latestForty();
         actsAreUndone();
+        allOfEightUndone();
         Check.end();
     }
 
@@ -192,10 +194,32 @@ public final class YearBoundsTest {
         Check.same("stone is worn by then", behind(1, "gargoyle 5 5 50;rain 4;" + person + "sits stone=46;").person(0, 4), 0);
         Check.same("age is 1 more by then", behind(1, "gargoyle 5 5 50;" + person + "sits age=30;").person(0, 4), 0);
         Check.same("unlike is less by then", behind(1, "gargoyle 5 5 50;" + person + "sits unlike=2;").person(0, 4), 0);
-        // All people are a year older ahead of the first who sits down.
-        GutterSeats all = behind(1, "gargoyle 5 5 50;" + person + "person 9 9 98;sits family=1;");
-        Check.same("family", all.person(0, 4), 0);
-        Check.same("no family", all.person(1, 4), NONE);
+    }
+
+    /** Where one who is most like gargoyle 1 sits behind a year. */
+    private static void family(String person, String rule, int due) {
+        GutterSeats x = behind(1, "gargoyle 1 1 50;gargoyle 5 5 50;" + person + "sits " + rule + ";");
+        Check.same(person + " by " + rule, x.person(0, 4), due);
+    }
+
+    private static void familyOfSits() {
+        family("person 5 5 1 of 1;", "family=1", 1);
+        family("person 5 5 1 of 1;", "family=0", NONE);
+        family("person 5 5 1 of 0;", "family=1", NONE);
+        family("person 5 5 1 of 0;", "family=0", 1);
+        family("person 5 5 1;", "family=1", NONE);
+        family("person 5 5 1;", "family=0", 1);
+        family("orphan 5 5 1 of 1;", "family=1", 1);
+        family("orphan 5 5 1 of 0;", "family=0", 1);
+        GutterSeats x = Check.told("gargoyle 1 1 50;gargoyle 5 5 50;person 5 5 1 of 0;sits family;");
+        x.lift(0, 0);
+        x.years(1);
+        Check.same("one who sits at the one of the FAMILY stays", x.person(0, 4), 0);
+        x.leave(0, 1);
+        x.years(1);
+        Check.same("which isn't that any more", x.person(0, 4), NONE);
+        x.years(1);
+        Check.same("but the other one is", x.person(0, 4), 1);
     }
 
     private static void ages() {
@@ -445,6 +469,7 @@ public final class YearBoundsTest {
         Check.same("at most 40", x.count(10), 40);
         for (int left = 39; left >= 0; left--) {
             Check.same("how many are left", x.undo(), left);
+            Check.same("the YEAR as it was ahead of that ACT", x.count(2), 1 + left);
         }
         Check.same("there is none", x.undo(), NONE);
         Check.same("the 41st has put out the first one", x.count(2), 1);
@@ -471,6 +496,45 @@ public final class YearBoundsTest {
         }
         Check.same("the latest ones", image.count(2), 5);
         Check.same("no more", image.undo(), NONE);
+    }
+
+    /** As many of all as there may be, and all of them changed: all is as it was. */
+    private static void allOfEightUndone() {
+        StringBuilder text = new StringBuilder();
+        for (int i = 0; i < 8; i++) {
+            text.append("gargoyle ").append(i).append(' ').append(9 - i).append(' ').append(40 + i).append(';');
+        }
+        for (int i = 0; i < 8; i++) {
+            text.append("person ").append(9 - i).append(' ').append(i + 1).append(' ').append(50 + i).append(" of ")
+                .append(7 - i).append(';');
+        }
+        GutterSeats x = Check.told(text + "rain 9;certain 51;sits year=19;");
+        String due = eight(x);
+        x.years(20);
+        for (int i = 0; i < 8; i++) {
+            Check.same("a LOAF by now", x.gargoyle(i, 2), 0);
+            Check.same("JAW has changed", x.person(i, 0), 0);
+            Check.same("BROW has changed", x.person(i, 1), 0);
+            Check.same("one sits by now", x.person(i, 4), i);
+            Check.same("AGE has changed", x.person(i, 2), 70 + i);
+            x.leave(i, i);
+        }
+        x.cut(7, 1, 2);
+        for (int left = 9; left >= 0; left--) {
+            Check.same("how many are left", x.undo(), left);
+        }
+        Picture.same("all of 8 and 8 undone", eight(x), due);
+    }
+
+    private static String eight(GutterSeats x) {
+        StringBuilder all = new StringBuilder("year " + x.count(2) + "\n");
+        for (int i = 0; i < 8; i++) {
+            for (int what = 0; what < 5; what++) {
+                all.append("gargoyle ").append(i).append(' ').append(what).append(": ").append(x.gargoyle(i, what)).append('\n');
+                all.append("person ").append(i).append(' ').append(what).append(": ").append(x.person(i, what)).append('\n');
+            }
+        }
+        return all.toString();
     }
 
     /** Each act alone, undone: all is as it was but how many acts are kept. */
