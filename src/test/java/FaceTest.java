@@ -20,15 +20,28 @@ import java.util.TreeSet;
 public final class FaceTest {
     private static final String SOURCE = "src/main/java/GutterSeats.java";
     private static final List<String> FACE = List.of(
-        "int feed(int, int, int, int, int)", "int tower(int)", "int fault()", "int count(int)",
-        "int gargoyle(int, int)", "int person(int, int)", "int years(int)", "int cut(int, int, int)",
-        "int call(int)", "boolean lift(int, int)", "int leave(int, int)", "int undo()",
-        "int then(int, int, int)", "int where(int, int, int)", "int loaf(int)", "int later(int, int)",
-        "int sat(int, int)", "int fits(int, int)", "int unlike(int, int, int)", "int seats(int)",
-        "int turn(int)", "int lasts(int, int)", "int best(int, int, int)", "int greatest(int, int)",
-        "int empty(int)", "int homes()", "int see(int, int, int)", "int old(int)", "int look(int)",
-        "void forget()", "int wet(int, int, int)", "int game(int, int, int)", "int ages(int, int, int)",
-        "void image()", "boolean restore()");
+        "int feed(int, int, int, int, int)", "int tower(int) throws IllegalArgumentException", "int fault()",
+        "int count(int) throws NoSuchElementException", "int gargoyle(int, int) throws NoSuchElementException",
+        "int person(int, int) throws NoSuchElementException", "int years(int)",
+        "int cut(int, int, int) throws NoSuchElementException", "int call(int) throws NoSuchElementException",
+        "boolean lift(int, int) throws NoSuchElementException", "int leave(int, int) throws NoSuchElementException",
+        "int undo()", "int then(int, int, int) throws NoSuchElementException, IllegalArgumentException",
+        "int where(int, int, int) throws NoSuchElementException, IllegalArgumentException",
+        "int loaf(int) throws NoSuchElementException",
+        "int later(int, int) throws NoSuchElementException, IllegalArgumentException",
+        "int sat(int, int) throws NoSuchElementException, IllegalArgumentException",
+        "int fits(int, int) throws NoSuchElementException",
+        "int unlike(int, int, int) throws NoSuchElementException", "int seats(int) throws NoSuchElementException",
+        "int turn(int) throws NoSuchElementException", "int lasts(int, int) throws NoSuchElementException",
+        "int best(int, int, int) throws NoSuchElementException, IllegalArgumentException",
+        "int greatest(int, int) throws NoSuchElementException, IllegalArgumentException",
+        "int empty(int) throws IllegalArgumentException", "int homes()",
+        "int see(int, int, int) throws NoSuchElementException", "int old(int) throws NoSuchElementException",
+        "int look(int) throws NoSuchElementException", "void forget()",
+        "int wet(int, int, int) throws NoSuchElementException, IllegalArgumentException",
+        "int game(int, int, int) throws NoSuchElementException, IllegalArgumentException",
+        "int ages(int, int, int) throws NoSuchElementException, IllegalArgumentException", "void image()",
+        "boolean restore()");
     private static final String[] FORBIDDEN = {"->", "::", "finally", "synchronized", "assert ", "Exact", "catch",
         "try ", "getMessage", "hashCode", "toString", "ordinal", "static {", "System.out", "Random", "volatile"};
 
@@ -51,7 +64,7 @@ public final class FaceTest {
                 Check.is(method.getName() + " is public", Modifier.isPublic(method.getModifiers()));
                 String types = Arrays.toString(method.getParameterTypes());
                 got.add(method.getReturnType() + " " + method.getName() + "("
-                    + types.substring(1, types.length() - 1) + ")");
+                    + types.substring(1, types.length() - 1) + ")" + thrown(method));
                 names.add(method.getName());
             }
         }
@@ -69,6 +82,14 @@ public final class FaceTest {
             Check.is("static and final " + field.getName(), !Modifier.isStatic(field.getModifiers())
                 || Modifier.isFinal(field.getModifiers()));
         }
+    }
+
+    private static String thrown(Method method) {
+        StringBuilder names = new StringBuilder();
+        for (Class<?> type : method.getExceptionTypes()) {
+            names.append(names.length() == 0 ? " throws " : ", ").append(type.getSimpleName());
+        }
+        return names.toString();
     }
 
     private static void nested() {
